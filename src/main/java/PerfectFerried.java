@@ -191,15 +191,15 @@ public final class PerfectFerried {
     }
 
     public boolean teach(int form, int from, int to) {
-        return hand.teaches(form, from, to);
+        return hand.teaches(form, from, to, true);
     }
 
     public boolean forget(int person, int form) {
-        return hand.forgets(person, form);
+        return hand.forgets(person, form, true);
     }
 
     public int tell(int person, int story) {
-        return hand.tells(person, story);
+        return hand.tells(person, story, true);
     }
 
     public int year(int n) {
@@ -226,12 +226,16 @@ public final class PerfectFerried {
         if (seed < 0 || seed > LAST_SEED || n < 1 || n > MOST_DRAWS) {
             return NONE;
         }
-        hand.passAges(seed, n);
+        world.addStep();
+        world.now.x = seed * 2 + FIRST_X;
+        for (int i = 0; i < n; i++) {
+            hand.follow(world.now.draw());
+        }
         return world.now.year;
     }
 
     public int undo() {
-        return world.steps.takeBack(world.now);
+        return world.takeStepBack();
     }
 
     public int of(int person, int what) {
@@ -464,7 +468,7 @@ public final class PerfectFerried {
             case 2: return world.stories;
             case 3: return world.texts;
             case 4: return world.rule;
-            case 5: return world.steps.count;
+            case 5: return world.steps;
             case 6: return world.said.count;
             case 7: return world.seen.count;
             case 8: return tapeLength;
@@ -896,7 +900,7 @@ public final class PerfectFerried {
             return bits;
         }
 
-        void write(int person, int story, int long_) {
+        void write(int person, int story, int needs) {
             if (tellings >= MOST_TELLINGS) {
                 System.arraycopy(book, TELLING_WIDTH, book, 0, (MOST_TELLINGS - 1) * TELLING_WIDTH);
                 tellings = MOST_TELLINGS - 1;
@@ -905,7 +909,7 @@ public final class PerfectFerried {
             book[at] = year;
             book[at + 1] = person;
             book[at + 2] = story;
-            book[at + 3] = long_;
+            book[at + 3] = needs;
             tellings++;
         }
 
@@ -922,46 +926,6 @@ public final class PerfectFerried {
                 }
             }
             return sum;
-        }
-    }
-
-    /** The latest STEPS: how all was ahead of each. */
-    private static final class Steps {
-        int count = 0;
-        private int eldest = 0;
-        private final Moment[] ahead = new Moment[MOST_STEPS];
-
-        Steps() {
-            for (int i = 0; i < MOST_STEPS; i++) {
-                ahead[i] = new Moment();
-            }
-        }
-
-        void add(Moment now) {
-            if (count >= MOST_STEPS) {
-                eldest = (eldest + 1) % MOST_STEPS;
-                count = MOST_STEPS - 1;
-            }
-            ahead[(eldest + count) % MOST_STEPS].take(now);
-            count++;
-        }
-
-        int takeBack(Moment now) {
-            if (count < 1) {
-                return NONE;
-            }
-            count--;
-            now.goBackTo(ahead[(eldest + count) % MOST_STEPS]);
-            return count;
-        }
-
-        void take(Steps other) {
-            count = other.count;
-            eldest = other.eldest;
-            for (int i = 0; i < count; i++) {
-                int at = (eldest + i) % MOST_STEPS;
-                ahead[at].take(other.ahead[at]);
-            }
         }
     }
 
@@ -996,7 +960,6 @@ public final class PerfectFerried {
     private static final class World {
         final Tongue tongue = new Tongue();
         final Moment now = new Moment();
-        final Steps steps = new Steps();
         final Rows said = new Rows();
         final Rows seen = new Rows();
         int stories = 0;
@@ -1004,6 +967,15 @@ public final class PerfectFerried {
         int texts = 0;
         int rule = NONE;
         private final Text[] text = new Text[MOST_TEXTS];
+        int steps = 0;
+        private int eldestStep = 0;
+        private final Moment[] ahead = new Moment[MOST_STEPS];
+
+        World() {
+            for (int i = 0; i < MOST_STEPS; i++) {
+                ahead[i] = new Moment();
+            }
+        }
 
         int addPerson(int age, int forms) {
             return age < 0 || age > LAST_AGE || !tongue.hasForms(forms) ? NONE : now.add(age, forms);
@@ -1044,17 +1016,43 @@ public final class PerfectFerried {
             return tongue.canTell(forms) ? (1 << stories) - 1 : 0;
         }
 
+        /** What comes next can be taken back; the eldest STEP gives way. */
+        void addStep() {
+            if (steps >= MOST_STEPS) {
+                eldestStep = (eldestStep + 1) % MOST_STEPS;
+                steps = MOST_STEPS - 1;
+            }
+            ahead[(eldestStep + steps) % MOST_STEPS].take(now);
+            steps++;
+        }
+
+        int takeStepBack() {
+            if (steps < 1) {
+                return NONE;
+            }
+            steps--;
+            now.goBackTo(ahead[(eldestStep + steps) % MOST_STEPS]);
+            return steps;
+        }
+
         void take(World other) {
             tongue.take(other.tongue);
             now.take(other.now);
-            steps.take(other.steps);
             said.take(other.said);
             seen.take(other.seen);
             stories = other.stories;
-            texts = other.texts;
-            rule = other.rule;
             System.arraycopy(other.storyOrder, 0, storyOrder, 0, MOST_STORIES);
-            System.arraycopy(other.text, 0, text, 0, MOST_TEXTS);
+            rule = other.rule;
+            texts = other.texts;
+            for (int i = 0; i < texts; i++) {
+                text[i] = other.text[i];
+            }
+            steps = other.steps;
+            eldestStep = other.eldestStep;
+            for (int i = 0; i < steps; i++) {
+                int at = (eldestStep + i) % MOST_STEPS;
+                ahead[at].take(other.ahead[at]);
+            }
         }
     }
 
@@ -1136,24 +1134,22 @@ public final class PerfectFerried {
         }
 
         private static int ofTwo(int token, int a, int b) {
+            long sum = 0;
             switch (token) {
-                case PLUS: return bounded((long) a + b);
-                case MINUS: return bounded((long) a - b);
-                case TIMES: return bounded((long) a * b);
-                case OVER: return b == 0 ? 0 : a / b;
-                case LESS: return a < b ? 1 : 0;
-                case MORE: return a > b ? 1 : 0;
-                case AT_MOST: return a <= b ? 1 : 0;
-                case AT_LEAST: return a >= b ? 1 : 0;
-                case SAME: return a == b ? 1 : 0;
-                case UNLIKE: return a != b ? 1 : 0;
-                case OR: return a | b;
-                case AND: return a & b;
-                default: return 0;
+                case PLUS: sum = (long) a + b; break;
+                case MINUS: sum = (long) a - b; break;
+                case TIMES: sum = (long) a * b; break;
+                case OVER: sum = b == 0 ? 0 : a / b; break;
+                case LESS: sum = a < b ? 1 : 0; break;
+                case MORE: sum = a > b ? 1 : 0; break;
+                case AT_MOST: sum = a <= b ? 1 : 0; break;
+                case AT_LEAST: sum = a >= b ? 1 : 0; break;
+                case SAME: sum = a == b ? 1 : 0; break;
+                case UNLIKE: sum = a != b ? 1 : 0; break;
+                case OR: sum = a | b; break;
+                case AND: sum = a & b; break;
+                default: break;
             }
-        }
-
-        private static int bounded(long sum) {
             if (sum > FARTHEST) {
                 return FARTHEST;
             }
@@ -1181,63 +1177,48 @@ public final class PerfectFerried {
             return world.now.knowsForm(from, form) && world.now.breath[from] >= world.tongue.length[form];
         }
 
-        private boolean canTeach(int form, int from, int to) {
-            return world.tongue.hasForm(form) && world.now.hasPerson(from) && world.now.hasPerson(to)
-                && hasBreathToTeach(form, from) && canLearn(form, to);
-        }
+        // Of these three, asStep is false within AGES, which are one STEP in all.
 
-        private void passOn(int form, int from, int to) {
-            world.now.knows[to] |= 1 << form;
-            world.now.breath[from] -= world.tongue.length[form];
-        }
-
-        boolean teaches(int form, int from, int to) {
-            if (!canTeach(form, from, to)) {
+        boolean teaches(int form, int from, int to, boolean asStep) {
+            Moment now = world.now;
+            if (!world.tongue.hasForm(form) || !now.hasPerson(from) || !now.hasPerson(to)
+                    || !hasBreathToTeach(form, from) || !canLearn(form, to)) {
                 return false;
             }
-            world.steps.add(world.now);
-            passOn(form, from, to);
+            if (asStep) {
+                world.addStep();
+            }
+            now.knows[to] |= 1 << form;
+            now.breath[from] -= world.tongue.length[form];
             return true;
         }
 
-        private boolean canForget(int person, int form) {
-            return world.now.hasPerson(person) && world.tongue.hasForm(form)
-                && world.now.knowsForm(person, form);
-        }
-
-        private void drop(int person, int form) {
-            world.now.knows[person] &= ~(1 << form);
-        }
-
-        boolean forgets(int person, int form) {
-            if (!canForget(person, form)) {
+        boolean forgets(int person, int form, boolean asStep) {
+            Moment now = world.now;
+            if (!now.hasPerson(person) || !world.tongue.hasForm(form) || !now.knowsForm(person, form)) {
                 return false;
             }
-            world.steps.add(world.now);
-            drop(person, form);
+            if (asStep) {
+                world.addStep();
+            }
+            now.knows[person] &= ~(1 << form);
             return true;
         }
 
-        /** How long it is, if it can be told now; else NONE. */
-        private int lengthNow(int person, int story) {
-            if (!world.now.hasPerson(person) || !world.hasStory(story)) {
+        int tells(int person, int story, boolean asStep) {
+            Moment now = world.now;
+            if (!now.hasPerson(person) || !world.hasStory(story)) {
                 return NONE;
             }
-            int needs = world.tongue.leastLength(world.now.knows[person]);
-            return needs > world.now.breath[person] ? NONE : needs;
-        }
-
-        private void tellAloud(int person, int story, int needs) {
-            world.now.breath[person] -= needs;
-            world.now.write(person, story, needs);
-        }
-
-        int tells(int person, int story) {
-            int needs = lengthNow(person, story);
-            if (needs != NONE) {
-                world.steps.add(world.now);
-                tellAloud(person, story, needs);
+            int needs = world.tongue.leastLength(now.knows[person]);
+            if (needs == NONE || needs > now.breath[person]) {
+                return NONE;
             }
+            if (asStep) {
+                world.addStep();
+            }
+            now.breath[person] -= needs;
+            now.write(person, story, needs);
             return needs;
         }
 
@@ -1245,7 +1226,7 @@ public final class PerfectFerried {
         int passYears(int n) {
             int forgotten = 0;
             for (int i = 0; i < n && world.now.year < LAST_YEAR; i++) {
-                world.steps.add(world.now);
+                world.addStep();
                 forgotten += passYear(world.now);
             }
             return forgotten;
@@ -1277,41 +1258,33 @@ public final class PerfectFerried {
             return later;
         }
 
-        void passAges(int seed, int n) {
-            world.steps.add(world.now);
-            world.now.x = seed * 2 + FIRST_X;
-            for (int i = 0; i < n; i++) {
-                follow(world.now.draw());
-            }
-        }
-
-        private void follow(int x) {
+        /** What a draw of AGES does, if it can be. */
+        void follow(int x) {
             int people = world.now.people;
             int forms = world.tongue.forms;
             int stories = world.stories;
-            int what = x % 6;
             int person = people > 0 ? x / 6 % people : NONE;
-            int other = people > 0 ? x / 5 % people : NONE;
             int form = forms > 0 ? x % forms : NONE;
-            int story = stories > 0 ? x % stories : NONE;
-            if (what <= 1 && canTeach(form, person, other)) {
-                passOn(form, person, other);
-            }
-            if (what == 2 && canForget(person, form)) {
-                drop(person, form);
-            }
-            if (what == 3) {
-                int needs = lengthNow(person, story);
-                if (needs != NONE) {
-                    tellAloud(person, story, needs);
-                }
-            }
-            if (what >= 4 && world.now.year < LAST_YEAR) {
-                passYear(world.now);
+            switch (x % 6) {
+                case 0:
+                case 1:
+                    teaches(form, person, people > 0 ? x / 5 % people : NONE, false);
+                    break;
+                case 2:
+                    forgets(person, form, false);
+                    break;
+                case 3:
+                    tells(person, stories > 0 ? x % stories : NONE, false);
+                    break;
+                default:
+                    if (world.now.year < LAST_YEAR) {
+                        passYear(world.now);
+                    }
+                    break;
             }
         }
 
-        /** One CLAUSE of a TEXT, as by hand: whether all of it could be. */
+        /** One CLAUSE of a TEXT, as by hand: whether all of it could be (a law always can). */
         boolean plays(Text script, int clause) {
             int a = script.cell(clause, 1);
             int b = script.cell(clause, 2);
@@ -1320,18 +1293,15 @@ public final class PerfectFerried {
                 case FORM: return world.tongue.add(a, b) != NONE;
                 case PERSON: return world.addPerson(a, b) != NONE;
                 case STORY: return world.addStory(a) != NONE;
-                case TEACH: return teaches(a, b, c);
-                case FORGET: return forgets(b, a);
-                case TELL: return tells(b, a) != NONE;
-                case YEAR: return playYears(a);
+                case TEACH: return teaches(a, b, c, true);
+                case FORGET: return forgets(b, a, true);
+                case TELL: return tells(b, a, true) != NONE;
+                case YEAR:
+                    boolean canAll = world.now.year + a <= LAST_YEAR;
+                    passYears(a);
+                    return canAll;
                 default: return true;
             }
-        }
-
-        private boolean playYears(int n) {
-            boolean all = world.now.year + n <= LAST_YEAR;
-            passYears(n);
-            return all;
         }
     }
 
@@ -1643,7 +1613,7 @@ public final class PerfectFerried {
         private void readClause() {
             int word = token;
             boolean isLaw = word == FADES || word == LEARNS;
-            if (!isLaw && !isDoing(word)) {
+            if (!isLaw && !isDeed(word)) {
                 fail(1);
             } else if (word == FADES && fadesFrom != NONE || word == LEARNS && learnsFrom != NONE) {
                 fail(4);
@@ -1654,13 +1624,13 @@ public final class PerfectFerried {
                 if (isLaw) {
                     readLaw(word);
                 } else {
-                    readDoing(word);
+                    readDeed(word);
                 }
                 expect(STOP);
             }
         }
 
-        private static boolean isDoing(int word) {
+        private static boolean isDeed(int word) {
             return word == FORM || word == PERSON || word == STORY || word == TEACH
                 || word == FORGET || word == TELL || word == YEAR;
         }
@@ -1676,7 +1646,7 @@ public final class PerfectFerried {
             }
         }
 
-        private void readDoing(int word) {
+        private void readDeed(int word) {
             int a = 0;
             int b = 0;
             int c = 0;
