@@ -76,7 +76,7 @@ public final class PromisesTest {
     taught(); forgotten(); told(); years(); playedTexts(); agesOfDraws(); undone();
     ofPeople(); ofForms(); laws(); isNow(); bookOfTellings(); foretoldYears();
     ordersAndSayings(); saidAndCould(); leastSayings(); counsel(); lostForms(); seenAndWhose();
-    richestAndRarest(); ledgers(); images(); abouts();
+    richestAndRarest(); ledgers(); images(); imagesInside(); abouts();
     System.out.println(wrong == 0 ? checks + " answers are as due" : wrong + " answers are not as due");
     if (wrong != 0) System.exit(1);
   }
@@ -249,6 +249,35 @@ public final class PromisesTest {
     due(faultOf("fades who!=1;"), 91);
     due(faultOf("person 1 known 1;"), 91);
     due(faultOf("fades 1; learns 1 = 1;"), 181);
+    due(faultOf("persons 1;"), 1);
+    due(faultOf("fadesss 1;"), 1);
+    due(faultOf("fades kindz;"), 61);
+    due(faultOf("fades kindZ;"), 61);
+    due(faultOf("fades kinda;"), 61);
+    due(faultOf("fades kindA;"), 61);
+    due(faultOf("fades kin;"), 61);
+    due(faultOf("fades kind[;"), 101);
+    due(faultOf("fades kind@;"), 101);
+    due(faultOf("fades 1/2:3;"), 91);
+    String full = " ".repeat(294);
+    due(faultOf(full + "fades "), 3001);
+    due(faultOf(full + "fadesx"), 2941);
+    due(faultOf(full + " year1"), 3001);
+    due(faultOf(" ".repeat(293) + "fades 1"), 3001);
+    due(faultOf(" ".repeat(292) + "fades 1<"), 2991);
+    due(faultOf(" ".repeat(293) + "year 1;"), -1);
+    // what stood on the tape behind its end is gone
+    PerfectFerried z = new PerfectFerried();
+    put(z, "year 10;");
+    z.end(6);
+    z.feed(0x3b202020, 0x20202020, 0x20202020, 0x20202020, 0x20202020);
+    due(z.text(), 0);
+    z.played(0);
+    due(z.is(0), 1);
+    put(z, "fades 1<=2;");
+    z.end(8);
+    due(z.text(), -1);
+    due(z.fault(1), 7);
     // 2: NUMBERS
     due(faultOf("fades 9999;"), -1);
     due(faultOf("fades 10000;"), 62);
@@ -420,6 +449,24 @@ public final class PromisesTest {
     due(x.about(5), 1);
     due(x.year(2) >= 0, true);
     due(x.about(5), 3);
+    // fades of 99 is 4: draws 1, 0, 7, 8 (271, 18780, 21227, 6588), one in each YEAR
+    x = new PerfectFerried();
+    x.form(0, 1);
+    x.form(0, 1);
+    x.person(99, 1);
+    x.person(0, 2);
+    due(x.year(1), 1);
+    x.undo();
+    x.person(99, 2);
+    // 1: forgotten; 0: not below 0; 7: not below 4; then 6588: 8, 24556: 6
+    due(x.year(2), 1);
+    due(x.of(2, 1), 2);
+    x.undo();
+    x.undo();
+    read(x, "fades if year = who then 10 else 0 end;");
+    x.by(0);
+    due(x.year(3), 3);
+    due(x.is(2), 0);
     // AGE and BREATH have an end
     x = new PerfectFerried();
     x.person(98, 0);
@@ -477,15 +524,28 @@ public final class PromisesTest {
     due(read(x, "year 60;"), 1);
     for (int i = 0; i < 166; i++) due(x.played(1), -1);
     due(x.is(0), 9962);
+    x.year(36);
+    due(x.is(0), 9998);
     due(x.played(1), 0);
     due(x.is(0), 9999);
     due(x.played(1), 0);
-    due(read(x, "person 1 knows 4;"), 2);
-    due(x.played(2), 0);
-    x.form(0, 1);
+    x.undo();
+    due(read(x, "year 1;"), 2);
     due(x.played(2), -1);
-    due(read(x, "form 0 length 1;form 0 length 1;form 0 length 1;form 0 length 1;form 0 length 1;form 0 length 1;"), 3);
-    due(x.played(3), 5);
+    due(x.played(2), 0);
+    due(x.is(0), 9999);
+    x = new PerfectFerried();
+    x.form(0, 1);
+    x.form(0, 1);
+    due(read(x, "person 1 knows 4;"), 0);
+    due(x.played(0), 0);
+    x.form(0, 1);
+    due(x.played(0), -1);
+    due(read(x, "story 0; teach 0 by 0 to 0;"), 1);
+    due(x.played(1), 1);
+    due(x.about(2), 1);
+    due(read(x, "form 0 length 1;form 0 length 1;form 0 length 1;form 0 length 1;form 0 length 1;form 0 length 1;"), 2);
+    due(x.played(2), 5);
     due(x.about(0), 8);
   }
 
@@ -541,6 +601,17 @@ public final class PromisesTest {
     due(y.of(1, 1), 3);
     due(y.of(0, 1), 7);
     due(y.about(5), 2);
+    // one of each is enough: SEED 0 can't (to itself), SEED 1 tells, SEED 43 forgets at last
+    PerfectFerried one = new PerfectFerried();
+    one.form(0, 1);
+    one.person(0, 1);
+    one.story(0);
+    due(one.ages(0, 1), 0);
+    due(one.ages(1, 1), 0);
+    due(one.book(-1, 0), 1);
+    due(one.ages(43, 2), 0);
+    due(one.book(-1, 0), 2);
+    due(one.of(0, 1), 0);
     // at 9999 no YEAR passes, and X is anew all the same
     for (int i = 0; i < 166; i++) y.year(60);
     y.year(39);
@@ -607,7 +678,7 @@ public final class PromisesTest {
       y.tell(0, 0);
     }
     due(y.book(-1, 0), 30);
-    due(y.book(0, 0), 2);
+    for (int i = 0; i < 30; i++) due(y.book(i, 0), i + 2);
     y.undo();
     y.undo();
     due(y.book(0, 0), 1);
@@ -766,8 +837,12 @@ public final class PromisesTest {
     due(x.is(3), 1);
     due(x.is(4), -2);
     due(x.is(-1), -2);
+    x.forget(1, 0);
+    due(x.is(2), 5);
     x.forget(1, 2);
     due(x.is(2), 1);
+    x.person(0, 2);
+    due(x.is(2), 3);
   }
 
   private static void bookOfTellings() {
@@ -836,6 +911,7 @@ public final class PromisesTest {
       int bits = 0;
       for (int one : d) bits |= 1 << one;
       if (bits != 31) continue;
+      if (number % 60 == 0) x = new PerfectFerried();
       promise = 23;
       for (int at = 0; at < 5; at++) due(x.order(number, at), d[at]);
       promise = 24;
@@ -844,6 +920,7 @@ public final class PromisesTest {
     }
     promise = 23;
     due(number, 120);
+    x = new PerfectFerried();
     due(x.order(-1, 0), -1);
     due(x.order(120, 0), -1);
     due(x.order(0, 5), -1);
@@ -946,6 +1023,9 @@ public final class PromisesTest {
     due(x.could(-1), 1);
     due(x.ask(), -1);
     due(x.sure(4), 10);
+    due(x.likely(3, 4, false), 1);
+    due(x.likely(4, 3, false), 0);
+    due(x.likely(4, 3, true), 1);
     x.say(0, 4, 3);
     due(x.could(-1), 0);
     due(x.could(0), -2);
@@ -1056,6 +1136,19 @@ public final class PromisesTest {
     due(x.cover(1), 16);
     x.person(0, 16);
     due(x.cover(2), 0);
+    // two are needed: of FORMS 0 .. 4 (4, 3, 2, 3, 4) 5 3 2 3 5 long, the shortest together, then the lowest
+    PerfectFerried two = new PerfectFerried();
+    two.form(4, 5);
+    two.form(3, 3);
+    two.form(2, 2);
+    two.form(3, 2);
+    two.form(4, 4);
+    two.form(4, 4);
+    two.story(0);
+    two.person(0, 0);
+    due(two.cover(0), 4 + 16);
+    two.person(0, 32);
+    due(two.cover(1), 4);
     PerfectFerried y = new PerfectFerried();
     y.form(2, 1);
     y.form(3, 1);
@@ -1243,6 +1336,10 @@ public final class PromisesTest {
     x.forget(1, 0);
     due(x.rarest(), 2);
     due(new PerfectFerried().rarest(), -1);
+    PerfectFerried all = new PerfectFerried();
+    all.form(0, 1);
+    for (int i = 0; i < 6; i++) all.person(1, 1);
+    due(all.rarest(), 0);
   }
 
   private static void ledgers() {
@@ -1313,6 +1410,50 @@ public final class PromisesTest {
     due(x.back(), 2);
     due(x.about(5), 2);
     due(x.book(-1, 0), 0);
+  }
+
+  /** What is told ahead of BACK stands in the same places as what comes again. */
+  private static void imagesInside() {
+    promise = 47;
+    PerfectFerried x = new PerfectFerried();
+    x.form(1, 5);
+    x.story(9);
+    x.person(33, 1);
+    x.say(2, 3, 3);
+    x.seen(0, 4);
+    read(x, "fades 4;");
+    x.by(0);
+    x.image();
+    x.say(-1, 0, 0);
+    x.say(3, 1, 1);
+    x.seen(-1, 0);
+    x.seen(0, 9);
+    x.forget(0, 0);
+    due(x.whose(), 0);
+    x.back();
+    due(x.whose(), 1);
+    due(x.could(0), x.number(3, 0, 1, 2, 4));
+    due(x.of(0, 1), 1);
+    // the first image has nothing: other things are told in the same places, then imaged
+    PerfectFerried y = new PerfectFerried();
+    y.form(1, 5);
+    y.story(9);
+    read(y, "fades 4;");
+    y.back();
+    y.form(2, 7);
+    y.story(8);
+    read(y, "fades 6;");
+    y.image();
+    y.back();
+    due(y.ofForm(0, 0), 2);
+    due(y.ofForm(0, 1), 7);
+    due(y.middle(), 8);
+    y.person(1, 0);
+    y.by(0);
+    due(y.law(0, 0, true), 6);
+    y.back();
+    due(y.about(1), 0);
+    due(y.about(4), -1);
   }
 
   private static void abouts() {
