@@ -1,84 +1,12 @@
 /** Each promise by hand: ordinary calls, the edges that the document names, and wrong ones. */
-public final class PromisesTest {
-  private static int wrong = 0;
-  private static int promise = 0;
-  private static int checks = 0;
-  private static final int BIG = Integer.MAX_VALUE;
-  private static final int LOW = Integer.MIN_VALUE;
-
-  private static void due(long got, long want) {
-    checks++;
-    if (got != want) {
-      wrong++;
-      StackTraceElement line = new Throwable().getStackTrace()[1];
-      System.out.println("promise " + promise + ", line " + line.getLineNumber() + ": answered " + got + ", due is " + want);
-    }
-  }
-
-  private static void due(boolean got, boolean want) {
-    checks++;
-    if (got != want) {
-      wrong++;
-      StackTraceElement line = new Throwable().getStackTrace()[1];
-      System.out.println("promise " + promise + ", line " + line.getLineNumber() + ": answered " + got + ", due is " + want);
-    }
-  }
-
-  private static void put(PerfectFerried x, String text) {
-    x.end(0);
-    byte[] bytes = new byte[320];
-    for (int i = 0; i < text.length(); i++) bytes[i] = (byte) text.charAt(i);
-    for (int i = 0; i < text.length(); i += 20) {
-      int[] w = new int[5];
-      for (int k = 0; k < 20; k++) w[k / 4] = w[k / 4] << 8 | bytes[i + k] & 255;
-      x.feed(w[0], w[1], w[2], w[3], w[4]);
-    }
-    x.end(text.length());
-  }
-
-  private static int read(PerfectFerried x, String text) {
-    put(x, text);
-    return x.text();
-  }
-
-  /** 10 times the place, and the number of the FAULT; -1 if the TEXT has none. */
-  private static int faultOf(String text) {
-    PerfectFerried x = new PerfectFerried();
-    int number = read(x, text);
-    if (number == 0) return x.fault(0) == 0 && x.fault(1) == -1 ? -1 : -99;
-    return x.fault(1) * 10 + x.fault(0);
-  }
-
-  /** A PERSON of AGE 30 (number 1) that knows FORMS 0 and 2; one of 9 (0) that knows FORM 0. */
-  private static PerfectFerried shore() {
-    PerfectFerried x = new PerfectFerried();
-    x.form(0, 2);
-    x.form(3, 7);
-    x.form(4, 3);
-    x.person(9, 1);
-    x.person(30, 5);
-    x.story(7);
-    return x;
-  }
-
-  /** What a law says of PERSON 1 and FORM 2 of shore(). */
-  private static int says(String law, boolean fades) {
-    PerfectFerried x = shore();
-    if (read(x, (fades ? "fades " : "learns ") + law + ";") != 0) return -1000;
-    x.by(0);
-    return x.law(1, 2, fades);
-  }
-
-  private static int learns(String law) { return says(law, false); }
-
+public final class PromisesTest extends Checks {
   public static void main(String[] args) {
     newObject(); forms(); people(); stories(); tape(); texts(); faults(); ruled();
     taught(); forgotten(); told(); years(); playedTexts(); agesOfDraws(); undone();
     ofPeople(); ofForms(); laws(); isNow(); bookOfTellings(); foretoldYears();
     ordersAndSayings(); saidAndCould(); leastSayings(); counsel(); lostForms(); seenAndWhose();
     richestAndRarest(); ledgers(); images(); imagesInside(); abouts();
-    System.out.println(wrong == 0 ? checks + " answers are as due" : wrong + " answers are not as due");
-    if (wrong != 0) System.exit(1);
+    finish();
   }
 
   private static void newObject() {
