@@ -28,7 +28,7 @@ public final class BoundsOfAskingTest extends Checks {
     back();
     about();
     nothingIsChanged();
-    finish();
+    finishBounds(23, 48);
   }
 
   private static void orders() {
@@ -298,6 +298,19 @@ public final class BoundsOfAskingTest extends Checks {
     x.say(1, 2, 3);
     due(x.ask(), 24);
 
+    x = sentence(30, "whether a is ahead of b (a below b)");
+    x.say(2, 4, 4);
+    x.say(1, 4, 3);
+    x.say(1, 3, 2);
+    // 1 and 0 alone are open: asked as 0 and 1
+    due(x.could(-1), 2);
+    due(x.ask(), 1);
+    x.say(-1, 0, 0);
+    x.say(2, 0, 0);
+    x.say(1, 0, 1);
+    x.say(1, 1, 2);
+    due(x.ask(), 34);
+
     x = sentence(30, "NONE: none, or one could be.");
     x.say(1, 0, 1);
     x.say(1, 1, 2);
@@ -351,6 +364,20 @@ public final class BoundsOfAskingTest extends Checks {
     due(y.least(3, 0, true), 4);
     due(y.least(5, 0, false), 28);
     due(y.least(5, 0, true), 5);
+
+    x = sentence(31, "a STORY is told by SAYINGS of KINDS of some FORMS (bits) that HOLD for it, so that no other ORDER has all of them");
+    x.form(2, 1);
+    x.form(3, 1);
+    x.form(4, 1);
+    x.story(60);
+    // 24, 24 and 6 ORDERS are left, then 2; three side by side and an end leave one
+    due(x.least(1, 0, true), -1);
+    due(x.least(2, 0, true), -1);
+    due(x.least(3, 0, true), -1);
+    due(x.least(4, 0, true), -1);
+    due(x.least(5, 0, true), 4);
+    due(x.least(6, 0, true), 4);
+    due(x.least(7, 0, true), 4);
 
     x = sentence(31, "NONE: no way, and for others (FORMS not told, bits).");
     due(x.least(0, 0, false), -1);
@@ -668,13 +695,15 @@ public final class BoundsOfAskingTest extends Checks {
     due(x.heirs(0), 56);
     rule(x, "learns 0;");
     due(x.heirs(0), 0);
-    // all know it
+    // all know it, all but the last, all but the first
     PerfectFerried y = new PerfectFerried();
     fill(y);
     due(y.heirs(0), 0);
     due(y.heirs(7), 0);
     y.forget(5, 7);
     due(y.heirs(7), 32);
+    y.forget(0, 7);
+    due(y.heirs(7), 33);
 
     x = sentence(39, "HEIRS (bits). NONE for others.");
     due(x.heirs(0), -1);
@@ -935,6 +964,20 @@ public final class BoundsOfAskingTest extends Checks {
       due(x.is(0), 4);
     }
 
+    // the STEPS of the image, when others stood in their place: 45 of them, round and round
+    x = new PerfectFerried();
+    x.year(45);
+    x.image();
+    for (int i = 0; i < 20; i++) x.undo();
+    x.ages(0, 40);
+    x.year(60);
+    due(x.back(), 45);
+    for (int i = 29; i >= 0; i--) {
+      due(x.undo(), i);
+      due(x.is(0), 15 + i);
+    }
+    due(x.undo(), -1);
+
     x = sentence(47, "BACK: all is so again.");
     String empty = state(x);
     x.form(0, 1);
@@ -963,6 +1006,17 @@ public final class BoundsOfAskingTest extends Checks {
     due(state(x), some);
     due(x.undo(), 0);
     due(x.of(0, 2), 20);
+    // what was SAID and SEEN, when other things stood in its place
+    x.back();
+    x.say(-1, 0, 0);
+    x.seen(-1, 0);
+    x.say(3, 4, 4);
+    x.seen(0, 6);
+    due(x.could(-1), 24);
+    due(x.whose(), 0);
+    x.back();
+    due(x.could(-1), 60);
+    due(x.whose(), 1);
     PerfectFerried y = new PerfectFerried();
     fill(y);
     y.year(40);

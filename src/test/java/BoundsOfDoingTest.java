@@ -20,7 +20,7 @@ public final class BoundsOfDoingTest extends Checks {
     isNow();
     book();
     foretelling();
-    finish();
+    finishBounds(10, 22);
   }
 
   /** PERSON 0 knows FORMS 0 (LENGTH 9) and 1 (LENGTH 2), PERSON 1 none. */
@@ -192,6 +192,22 @@ public final class BoundsOfDoingTest extends Checks {
     z.year(1);
     due(z.tell(0, 0), 24);
     due(z.of(0, 2), 6);
+
+    x = sentence(12, "A PERSON can tell a STORY, if there is a way by FORMS it knows; it is so long.");
+    x.form(4, 1);
+    x.form(2, 1);
+    x.form(0, 1);
+    x.person(0, 0);
+    x.person(0, 1);
+    x.person(0, 3);
+    x.story(119);
+    // none, one too few, just enough; what it doesn't know is nothing to it
+    due(x.tell(0, 0), -1);
+    due(x.tell(1, 0), -1);
+    due(x.tell(2, 0), 4);
+    x.forget(2, 1);
+    due(x.tell(2, 0), -1);
+    due(x.of(2, 3), 0);
 
     x = shore();
     sentence(12, "NONE, if it can't be, and for others.");
@@ -463,6 +479,38 @@ public final class BoundsOfDoingTest extends Checks {
     due(x.undo(), 0);
     due(x.of(0, 1), 1);
 
+    x = sentence(14, "in their order, as by hand");
+    // each NUMBER at its highest, as far as a TEXT can have it told
+    for (int i = 0; i < 7; i++) x.form(0, 1);
+    for (int i = 0; i < 4; i++) x.person(0, 0);
+    for (int i = 0; i < 3; i++) x.story(0);
+    read(x, "form 1 length 9;person 98 knows 255;person 99 knows 0;story 119;teach 7 by 4 to 5;tell 3 by 4;forget 7 by 5;year 60;");
+    due(x.played(0), -1);
+    due(x.ofForm(7, 0), 1);
+    due(x.ofForm(7, 1), 9);
+    due(x.about(1), 6);
+    due(x.of(4, 0), 99);
+    due(x.of(5, 0), 99);
+    due(x.book(0, 0), 0);
+    due(x.book(0, 1), 4);
+    due(x.book(0, 2), 3);
+    due(x.book(0, 3), 4);
+    due(x.is(0), 60);
+    due(x.about(5), 30);
+    due(x.played(0), 0);
+    // ahead of the YEARS: 11 of BREATH, then 7
+    PerfectFerried y = new PerfectFerried();
+    y.form(0, 1);
+    read(y, "form 4 length 9;person 98 knows 3;person 99 knows 0;story 119;teach 1 by 0 to 1;tell 0 by 0;forget 1 by 1;");
+    due(y.played(0), -1);
+    due(y.of(0, 0), 98);
+    due(y.of(0, 1), 3);
+    due(y.of(0, 2), 7);
+    due(y.of(1, 0), 99);
+    due(y.of(1, 1), 0);
+    due(y.about(5), 3);
+    due(y.middle(), 119);
+
     x = sentence(14, "its CLAUSES but laws");
     read(x, "fades 10;learns 0;form 0 length 1;person 0 knows 1;person 0 knows 0;teach 0 by 0 to 1;year 1;");
     due(x.played(0), -1);
@@ -585,6 +633,16 @@ public final class BoundsOfDoingTest extends Checks {
     x.story(0);
     due(x.ages(13, 1), 0);
     due(x.book(-1, 0), 1);
+
+    // one of each is enough: 2180 forgets FORM 0 by PERSON 0; 277 teaches it, by PERSON 0 to PERSON 1
+    due(x.ages(43, 2), 0);
+    due(x.of(0, 1), 0);
+    x = new PerfectFerried();
+    x.form(0, 1);
+    x.person(0, 1);
+    x.person(0, 0);
+    due(x.ages(3, 1), 0);
+    due(x.of(1, 1), 1);
 
     x = sentence(15, "0, 1 FORM x mod how many is TAUGHT by PERSON x / 6 mod how many to PERSON x / 5 mod how many");
     // 168: FORM 0 by PERSON 28 mod 6 = 4 to PERSON 33 mod 6 = 3
@@ -1002,6 +1060,12 @@ public final class BoundsOfDoingTest extends Checks {
         }
       }
     }
+    for (String so : new String[] {"1<2", "1<=2", "2>1", "2>=1", "1=1", "1#2", "not 1=2", "not not 1=1"}) {
+      due(learns("if " + so + " and 1=1 then 1 else 0 end"), 1);
+      due(learns("if 1=1 and " + so + " then 1 else 0 end"), 1);
+      due(learns("if " + so + " or 1=2 then 1 else 0 end"), 1);
+      due(learns("if not " + so + " or 1=2 then 1 else 0 end"), 0);
+    }
     due(learns("if 1=1 then 2 else 1/0+9999*9999*9999 end"), 2);
     due(learns("if 1=2 then 9999*9999 else 3 end"), 3);
 
@@ -1060,6 +1124,14 @@ public final class BoundsOfDoingTest extends Checks {
     due(x.is(2), 129);
     x.forget(2, 7);
     due(x.is(2), 1);
+    // the first one alone, and the last of six
+    x = new PerfectFerried();
+    x.form(0, 1);
+    x.form(0, 1);
+    x.person(0, 1);
+    due(x.is(2), 1);
+    for (int i = 1; i < 6; i++) x.person(0, i == 5 ? 2 : 0);
+    due(x.is(2), 3);
   }
 
   /** PERSON 0 tells STORIES 0 and 1 by turns, one in a YEAR. */

@@ -18,7 +18,7 @@ public final class BoundsOfTellingTest extends Checks {
     faultsFourToSix();
     leastFault();
     ruling();
-    finish();
+    finishBounds(1, 9);
   }
 
   private static void newObject() {
@@ -54,6 +54,11 @@ public final class BoundsOfTellingTest extends Checks {
     // an object has nothing of another one
     due(new PerfectFerried().is(1), 271);
     due(state(new PerfectFerried()), first);
+
+    x = sentence(1, "An object is used for at most 512 calls after it has been made");
+    for (int call = 1; call <= 510; call++) x.year(19);
+    due(x.is(0), 9690);
+    due(x.about(5), 30);
 
     x = sentence(1, "The constants: `NONE = -1`: None.");
     due(PerfectFerried.NONE, -1);

@@ -17,6 +17,7 @@ abstract class Checks {
   private static int checks = 0;
   private static int wrong = 0;
   private static final List<String> sentences = new ArrayList<>();
+  private static final boolean[] met = new boolean[49];
 
   /** Begins the test of one sentence, on an object of its own. */
   static PerfectFerried sentence(int number, String quote) {
@@ -25,6 +26,7 @@ abstract class Checks {
     words = quote;
     ofThis = 0;
     sentences.add(quote);
+    met[number] = true;
     return new PerfectFerried();
   }
 
@@ -61,10 +63,17 @@ abstract class Checks {
     System.out.println("promise " + promise + (words.isEmpty() ? "" : " \"" + words + "\"") + ", line" + lines + ": " + what);
   }
 
-  /** Says how it went; each sentence must stand in the document as it is quoted. */
-  static void finish() {
+  /** Each of these promises has a sentence, and each sentence stands in the document as it is quoted. */
+  static void finishBounds(int first, int last) {
     endSentence();
-    if (!sentences.isEmpty()) quotesStand();
+    for (promise = first; promise <= last; promise++) {
+      if (!met[promise]) fault("no sentence");
+    }
+    quotesStand();
+    finish();
+  }
+
+  static void finish() {
     System.out.println(wrong == 0 ? checks + " answers are as due" + (sentences.isEmpty() ? "" : ", in " + sentences.size() + " sentences")
       : wrong + " answers are not as due");
     if (wrong != 0) System.exit(1);
