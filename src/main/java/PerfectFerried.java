@@ -1484,7 +1484,14 @@ public final class PerfectFerried {
             begin(bytes);
             next();
             for (int i = 0; i <= MOST_CLAUSES && fault == 0 && token != NO_MORE; i++) {
-                readClause();
+                int wrong = wrongBeginning(token);
+                if (wrong != 0) {
+                    fail(wrong);
+                } else if (token == FADES || token == LEARNS) {
+                    readLaw(token);
+                } else {
+                    readDeed(token);
+                }
             }
             if (fault != 0) {
                 return null;
@@ -1610,24 +1617,15 @@ public final class PerfectFerried {
             return read;
         }
 
-        private void readClause() {
-            int word = token;
-            boolean isLaw = word == FADES || word == LEARNS;
-            if (!isLaw && !isDeed(word)) {
-                fail(1);
-            } else if (word == FADES && fadesFrom != NONE || word == LEARNS && learnsFrom != NONE) {
-                fail(4);
-            } else if (clauses >= MOST_CLAUSES) {
-                fail(6);
-            } else {
-                next();
-                if (isLaw) {
-                    readLaw(word);
-                } else {
-                    readDeed(word);
-                }
-                expect(STOP);
+        /** The FAULT of a TOKEN that a CLAUSE should begin with, the least first; 0 if it has none. */
+        private int wrongBeginning(int word) {
+            if (word != FADES && word != LEARNS && !isDeed(word)) {
+                return 1;
             }
+            if (word == FADES && fadesFrom != NONE || word == LEARNS && learnsFrom != NONE) {
+                return 4;
+            }
+            return clauses >= MOST_CLAUSES ? 6 : 0;
         }
 
         private static boolean isDeed(int word) {
@@ -1650,6 +1648,7 @@ public final class PerfectFerried {
             int a = 0;
             int b = 0;
             int c = 0;
+            next();
             switch (word) {
                 case FORM:
                     a = expectNumber(0, KINDS - 1);
@@ -1677,13 +1676,16 @@ public final class PerfectFerried {
                     }
                     break;
             }
+            expect(STOP);
             keepClause(word, a, b, c);
         }
 
         private void readLaw(int word) {
             int from = codeLength;
             inFades = word == FADES;
+            next();
             readSum(0);
+            expect(STOP);
             if (inFades) {
                 fadesFrom = from;
                 fadesTo = codeLength;
